@@ -29,7 +29,7 @@ public final class AnsweredFates {
     private final Draws draws = new Draws();
     private final Returns returns = new Returns();
     private final Book book = new Book();
-    private final Matching matching = new Matching();
+    private final Matching matching = new Matching(course);
     private Hills draft = new Hills();
 
     public AnsweredFates() {
@@ -194,7 +194,7 @@ public final class AnsweredFates {
 
     public int match(int p) {
         if (p != NONE && !course.isPerson(p)) return UNKNOWN;
-        matching.work(course);
+        matching.work();
         return p == NONE ? matching.total() : matching.goer[p];
     }
 
@@ -734,12 +734,15 @@ public final class AnsweredFates {
         final int[] goer = new int[MAX_PERSONS];
         private final int[] left = new int[MAX_PERSONS * MAX_PERSONS];
         private final int[] least = new int[(MAX_PERSONS + 1) * SETS];
-        private Course course;
+        private final Course course;
         private int persons;
 
-        void work(Course with) {
-            course = with;
-            persons = with.hills.persons;
+        Matching(Course course) {
+            this.course = course;
+        }
+
+        void work() {
+            persons = course.hills.persons;
             tryAll();
             for (int spent = 0; spent < 1 << persons; spent++) least[persons * SETS + spent] = 0;
             for (int p = persons - 1; p >= 0; p--) {

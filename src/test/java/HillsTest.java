@@ -8,7 +8,10 @@ public final class HillsTest {
         faultChangesNothing();
         newHillsBeginAnew();
         noHillsAgain();
+        nothingOfOldHills();
         told();
+        borne();
+        madeUp();
         persons();
         rings();
         villages();
@@ -153,6 +156,9 @@ public final class HillsTest {
         Check.due("undone still", x.undo(), 1);
         Check.due("seed still", x.seed(0), 77);
         Check.due("image still", x.goBack(1), 1);
+        Check.feed(x, "o1 1;");
+        Check.due("hills without a fault", x.hills(), 0);
+        Check.due("no fault now", x.fault(), Check.NONE);
     }
 
     private static void newHillsBeginAnew() {
@@ -199,6 +205,68 @@ public final class HillsTest {
         Check.due("returned(1)", x.returned(1), 1);
         Check.due("went", x.told(14), 0);
         Check.due("in each", x.told(15), Check.NONE);
+    }
+
+    /** Text upon text on one object: what the text before the last had told must not show. */
+    private static void nothingOfOldHills() {
+        AnsweredFates x = Check.withHills();
+        Check.feed(x, "o20 9;v99;v99;v99;v99;p3 0 9 9;p3 1 9 9;p3 2 9 9;p3 3 9 9;p3 0 9 9;p3 1 9 9;p3 2 9 9;");
+        Check.due("hills of seven", x.hills(), 7);
+        for (int p = 0; p < 7; p++) x.tell(p, 99);
+        Check.due("match of seven", x.match(-1), 0);
+        Check.feed(x, Check.HILLS);
+        Check.due("hills of five", x.hills(), 5);
+        Check.due("as on a new object", Check.seen(x).equals(Check.seen(Check.withHills())) ? 1 : 0, 1);
+        Check.feed(x, "o5 5;v9;p0 0 1 0;");
+        Check.due("hills of one", x.hills(), 1);
+        x.tell(0, 99);
+        Check.due("match of one", x.match(-1), 97);
+        Check.due("as on a new object of one", x.village(0, 1), 1);
+        Check.feed(x, "  ");
+        Check.due("no hills", x.hills(), 0);
+        Check.due("as new", Check.seen(x).equals(Check.seen(new AnsweredFates())) ? 1 : 0, 1);
+    }
+
+    private static void borne() {
+        AnsweredFates x = Check.with("o1 1;v4;v5;v9;p0 0 9 9;p0 1 9 9;p3 2 5 9;");
+        Check.due("nothing is borne", x.told(10), 1);
+        x.tell(2, 9);
+        Check.due("she goes up", x.answer(2, 2), 0);
+        Check.due("nine of four and five", x.told(10), 1);
+        Check.due("had by the first", x.village(0, 2), 4);
+        Check.due("had by the second", x.village(1, 2), 5);
+        Check.due("made up", x.told(11), 1);
+        x.bear(0, 3);
+        Check.due("nine of three and five", x.told(10), 0);
+        Check.due("made up later", x.told(11), 2);
+        x.tell(0, 1);
+        Check.due("told 1 is told above 0", x.told(7), 1);
+        Check.due("had by the second alone", x.village(1, 2), 5);
+        Check.due("had by none of the first", x.village(0, 2), 0);
+        Check.due("one answers back 1", x.answer(0, 0), 0);
+    }
+
+    private static void madeUp() {
+        AnsweredFates x = Check.with("o1 1;v1;v0;p0 0 9 9;p3 1 9 9;");
+        for (int i = 0; i < 3; i++) {
+            x.tell(1, 20);
+            x.answer(1, 1);
+            // one of it is taken at once
+            x.year(1);
+        }
+        Check.due("owed", x.told(6), 51);
+        Check.due("made up in 51", x.told(11), 51);
+        x.tell(1, 9);
+        x.answer(1, 0);
+        Check.due("made up in 60", x.told(11), 60);
+        x.tell(0, 0);
+        Check.due("one was told, so it is 61", x.told(11), Check.NONE);
+        x.undo();
+        x.tell(1, 1);
+        x.answer(1, 1);
+        Check.due("61 are not made up", x.told(11), Check.NONE);
+        x.year(1);
+        Check.due("but a year later", x.told(11), 60);
     }
 
     private static void told() {

@@ -66,7 +66,10 @@ public final class LanguageTest {
                 else holds(f + " is final", Modifier.isFinal(f.getModifiers()));
             }
             holds(c + " has some twenty fields at most", fields <= 20);
-            for (Method m : c.getDeclaredMethods()) holds(m + " has seven parameters at most", m.getParameterCount() <= 7);
+            for (Method m : c.getDeclaredMethods()) {
+                holds(m + " has seven parameters at most", m.getParameterCount() <= 7);
+                holds(m + " has a name of its own", !(" " + FACE).contains(" " + m.getName() + "/"));
+            }
         }
     }
 

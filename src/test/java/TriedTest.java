@@ -30,6 +30,12 @@ public final class TriedTest {
         Check.due("a shy one in one turn", x.down(2, 9, 1), 1);
         Check.due("a shy one in three turns", x.down(2, 18, 1), 3);
         Check.due("rid of 3", x.person(4, 6), 3);
+        for (int p = 0; p < 5; p++) {
+            int rid = x.person(p, 6);
+            for (int n = 0; n <= 99; n++) Check.due("rid of " + n + " by " + p, x.down(p, n, 0) == 0 ? 1 : 0, n <= rid ? 1 : 0);
+        }
+        AnsweredFates old = Check.with("o20 1;v1;p3 0 9 9;");
+        Check.due("rid of all", old.person(0, 6), 99);
         Check.due("down(5, 0, 0)", x.down(5, 0, 0), Check.UNKNOWN);
         Check.due("down(-1, 100, 2)", x.down(-1, 100, 2), Check.UNKNOWN);
         Check.due("down(0, 100, 0)", x.down(0, 100, 0), Check.OUTSIDE);
@@ -66,6 +72,11 @@ public final class TriedTest {
         x.answer(0, 4);
         Check.due("all went up", x.best(5), Check.NONE);
         Check.due("all went up, outside", x.best(100), Check.OUTSIDE);
+        x = Check.with("o1 1;v1;p0 0 1 9;p2 0 2 9;");
+        Check.due("best where 98 and 97 are left", x.best(99), 1);
+        x.tell(0, 5);
+        x.answer(0, 1);
+        Check.due("best where 98 is left", x.best(99), 0);
         x = Check.with("o1 1;v1;");
         Check.due("best of nobody", x.best(5), Check.NONE);
     }
