@@ -29,7 +29,7 @@ public final class AnsweredFates {
     private final Draws draws = new Draws();
     private final Returns returns = new Returns();
     private final Book book = new Book();
-    private final Matching matching = new Matching(course);
+    private final Matching matching = new Matching();
     private Hills draft = new Hills();
 
     public AnsweredFates() {
@@ -194,7 +194,7 @@ public final class AnsweredFates {
 
     public int match(int p) {
         if (p != NONE && !course.isPerson(p)) return UNKNOWN;
-        matching.work();
+        matching.work(course);
         return p == NONE ? matching.total() : matching.goer[p];
     }
 
@@ -732,18 +732,14 @@ public final class AnsweredFates {
         private static final int SETS = 1 << MAX_PERSONS;
 
         final int[] goer = new int[MAX_PERSONS];
+        private final int[] kept = new int[MAX_PERSONS];
         private final int[] left = new int[MAX_PERSONS * MAX_PERSONS];
         private final int[] least = new int[(MAX_PERSONS + 1) * SETS];
-        private final Course course;
         private int persons;
 
-        Matching(Course course) {
-            this.course = course;
-        }
-
-        void work() {
+        void work(Course course) {
             persons = course.hills.persons;
-            tryAll();
+            tryAll(course);
             for (int spent = 0; spent < 1 << persons; spent++) least[persons * SETS + spent] = 0;
             for (int p = persons - 1; p >= 0; p--) {
                 for (int spent = 0; spent < 1 << persons; spent++) least[p * SETS + spent] = leastFrom(p, spent);
@@ -755,16 +751,18 @@ public final class AnsweredFates {
             return least[0];
         }
 
-        private void tryAll() {
+        /** What p keeps if nobody goes up, and what is left if q does; NONE: q cannot. */
+        private void tryAll(Course course) {
             for (int p = 0; p < persons; p++) {
+                kept[p] = course.now.fate[p];
                 for (int q = 0; q < persons; q++) {
-                    if (course.canAnswer(p, q)) left[p * MAX_PERSONS + q] = course.leftBy(q, course.now.fate[p]);
+                    left[p * MAX_PERSONS + q] = course.canAnswer(p, q) ? course.leftBy(q, kept[p]) : NONE;
                 }
             }
         }
 
         private int leastFrom(int p, int spent) {
-            int best = course.now.fate[p] + least[(p + 1) * SETS + spent];
+            int best = kept[p] + least[(p + 1) * SETS + spent];
             for (int q = 0; q < persons; q++) {
                 if (mayGo(p, q, spent)) best = Math.min(best, leftWith(p, q, spent));
             }
@@ -772,7 +770,7 @@ public final class AnsweredFates {
         }
 
         private boolean mayGo(int p, int q, int spent) {
-            return (spent >> q & 1) == 0 && course.canAnswer(p, q);
+            return (spent >> q & 1) == 0 && left[p * MAX_PERSONS + q] != NONE;
         }
 
         private int leftWith(int p, int q, int spent) {

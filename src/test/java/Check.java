@@ -22,13 +22,13 @@ final class Check {
         System.out.println(what + " answered " + got + ", due is " + want);
     }
 
-    static void feed(AnsweredFates x, String text) {
+    static void feed(Called x, String text) {
         for (int i = 0; i < text.length(); i++) due("feed of " + text + " at " + i, x.feed(text.charAt(i)), i + 1);
     }
 
     /** A new object with the hills of a text that has no fault. */
-    static AnsweredFates with(String text) {
-        AnsweredFates x = new AnsweredFates();
+    static Called with(String text) {
+        Called x = new Called();
         feed(x, text);
         int persons = 0;
         for (int i = 0; i < text.length(); i++) if (text.charAt(i) == 'p') persons++;
@@ -36,12 +36,12 @@ final class Check {
         return x;
     }
 
-    static AnsweredFates withHills() {
+    static Called withHills() {
         return with(HILLS);
     }
 
     /** What can be seen of an object without changing it, but for the fault of its latest text. */
-    static String seen(AnsweredFates x) {
+    static String seen(Called x) {
         StringBuilder all = new StringBuilder();
         for (int what = 0; what <= 18; what++) all.append(x.told(what)).append(' ');
         for (int p = 0; p < 7; p++) for (int what = 0; what <= 8; what++) all.append(x.person(p, what)).append(' ');
@@ -49,10 +49,13 @@ final class Check {
         return all.append(x.judge()).toString();
     }
 
-    /** A call that was refused: with the answer that is due, and nothing changed. */
-    static void refused(AnsweredFates x, String before, String what, int got, int want) {
-        due(what, got, want);
-        due(what + " changed nothing (1)", before.equals(seen(x)) ? 1 : 0, 1);
+    static void same(String what, String got, String want) {
+        due(what + " (1)", got.equals(want) ? 1 : 0, 1);
+    }
+
+    /** What was refused since then has changed nothing. */
+    static void unchanged(Called x, String before) {
+        same("what was refused changed nothing", seen(x), before);
     }
 
     static void end() {

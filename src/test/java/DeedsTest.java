@@ -17,7 +17,7 @@ public final class DeedsTest {
     }
 
     private static void telling() {
-        AnsweredFates x = Check.withHills();
+        Called x = Check.withHills();
         Check.due("tell(1, 99)", x.tell(1, 99), 0);
         Check.due("tell(1, 5)", x.tell(1, 5), 99);
         Check.due("its fate", x.person(1, 4), 5);
@@ -25,15 +25,16 @@ public final class DeedsTest {
         Check.due("told above 0", x.told(7), 0);
         Check.due("told by 0 is told", x.told(8), 29);
         String before = Check.seen(x);
-        Check.refused(x, before, "tell(5, 1)", x.tell(5, 1), Check.UNKNOWN);
-        Check.refused(x, before, "tell(-1, 1)", x.tell(-1, 1), Check.UNKNOWN);
-        Check.refused(x, before, "tell(5, 100)", x.tell(5, 100), Check.UNKNOWN);
-        Check.refused(x, before, "tell(0, 100)", x.tell(0, 100), Check.OUTSIDE);
-        Check.refused(x, before, "tell(0, -1)", x.tell(0, -1), Check.OUTSIDE);
+        Check.due("tell(5, 1)", x.tell(5, 1), Check.UNKNOWN);
+        Check.due("tell(-1, 1)", x.tell(-1, 1), Check.UNKNOWN);
+        Check.due("tell(5, 100)", x.tell(5, 100), Check.UNKNOWN);
+        Check.due("tell(0, 100)", x.tell(0, 100), Check.OUTSIDE);
+        Check.due("tell(0, -1)", x.tell(0, -1), Check.OUTSIDE);
+        Check.unchanged(x, before);
     }
 
     private static void answering() {
-        AnsweredFates x = Check.withHills();
+        Called x = Check.withHills();
         x.tell(0, 90);
         x.tell(1, 90);
         x.tell(4, 90);
@@ -76,24 +77,25 @@ public final class DeedsTest {
     }
 
     private static void answeringRefused() {
-        AnsweredFates x = Check.withHills();
+        Called x = Check.withHills();
         x.tell(0, 40);
         x.tell(1, 40);
         x.answer(0, 2);
         String before = Check.seen(x);
-        Check.refused(x, before, "answer(5, 0)", x.answer(5, 0), Check.UNKNOWN);
-        Check.refused(x, before, "answer(0, 5)", x.answer(0, 5), Check.UNKNOWN);
-        Check.refused(x, before, "answer(-1, 2)", x.answer(-1, 2), Check.UNKNOWN);
-        Check.refused(x, before, "answer(3, -1)", x.answer(3, -1), Check.UNKNOWN);
-        Check.refused(x, before, "answer(3, 0), a fate of 0", x.answer(3, 0), Check.NOT);
-        Check.refused(x, before, "answer(1, 2), who went up", x.answer(1, 2), Check.NOT);
+        Check.due("answer(5, 0)", x.answer(5, 0), Check.UNKNOWN);
+        Check.due("answer(0, 5)", x.answer(0, 5), Check.UNKNOWN);
+        Check.due("answer(-1, 2)", x.answer(-1, 2), Check.UNKNOWN);
+        Check.due("answer(3, -1)", x.answer(3, -1), Check.UNKNOWN);
+        Check.due("answer(3, 0), a fate of 0", x.answer(3, 0), Check.NOT);
+        Check.due("answer(1, 2), who went up", x.answer(1, 2), Check.NOT);
+        Check.unchanged(x, before);
         x.year(1);
         x.tell(1, 40);
         Check.due("next year one goes up again", x.answer(1, 2), 17);
     }
 
     private static void owedAndHarmHaveAnEnd() {
-        AnsweredFates x = Check.with("o20 1;v99;p3 0 9 9;p3 0 9 9;p3 0 9 9;p3 0 9 9;p3 0 9 9;p3 0 9 9;p3 0 9 9;");
+        Called x = Check.with("o20 1;v99;p3 0 9 9;p3 0 9 9;p3 0 9 9;p3 0 9 9;p3 0 9 9;p3 0 9 9;p3 0 9 9;");
         for (int year = 0; year < 14; year++) {
             for (int p = 0; p < 7; p++) {
                 x.tell(p, 99);
@@ -127,7 +129,7 @@ public final class DeedsTest {
     }
 
     private static void years() {
-        AnsweredFates x = Check.withHills();
+        Called x = Check.withHills();
         x.tell(2, 90);
         x.answer(2, 3);
         x.tell(4, 8);
@@ -155,57 +157,62 @@ public final class DeedsTest {
     }
 
     private static void yearsRefused() {
-        AnsweredFates x = new AnsweredFates();
+        Called x = new Called();
         Check.due("year(0) without hills", x.year(0), Check.OUTSIDE);
         Check.due("drift(61) without hills", x.drift(61), Check.OUTSIDE);
         Check.due("year(1) without hills", x.year(1), Check.NOT);
         Check.due("drift(1) without hills", x.drift(1), Check.NOT);
         x = Check.withHills();
         String before = Check.seen(x);
-        Check.refused(x, before, "year(0)", x.year(0), Check.OUTSIDE);
-        Check.refused(x, before, "year(61)", x.year(61), Check.OUTSIDE);
-        Check.refused(x, before, "drift(0)", x.drift(0), Check.OUTSIDE);
-        Check.refused(x, before, "drift(-5)", x.drift(-5), Check.OUTSIDE);
+        Check.due("year(0)", x.year(0), Check.OUTSIDE);
+        Check.due("year(61)", x.year(61), Check.OUTSIDE);
+        Check.due("drift(0)", x.drift(0), Check.OUTSIDE);
+        Check.due("drift(-5)", x.drift(-5), Check.OUTSIDE);
+        Check.unchanged(x, before);
+        x = Check.withHills();
         for (int i = 0; i < 150; i++) Check.due("year(60)", x.year(60), 0);
         Check.due("years", x.told(5), 9000);
         Check.due("year(60) at 9000", x.year(60), 0);
         Check.due("years", x.told(5), 9060);
         before = Check.seen(x);
-        Check.refused(x, before, "year(1) above 9000", x.year(1), Check.FULL);
-        Check.refused(x, before, "drift(1) above 9000", x.drift(1), Check.FULL);
-        Check.refused(x, before, "year(61) above 9000", x.year(61), Check.OUTSIDE);
+        Check.due("year(1) above 9000", x.year(1), Check.FULL);
+        Check.due("drift(1) above 9000", x.drift(1), Check.FULL);
+        Check.due("year(61) above 9000", x.year(61), Check.OUTSIDE);
+        Check.unchanged(x, before);
         x.undo();
         Check.due("year(1) at 9000", x.year(1), 0);
         Check.due("drift(1) at 9001", x.drift(1), Check.FULL);
     }
 
     private static void wits() {
-        AnsweredFates x = Check.withHills();
+        Called x = Check.withHills();
         Check.due("wit(0, 1)", x.wit(0, 1), 5);
         Check.due("wit(0, 9)", x.wit(0, 9), 1);
         Check.due("wit now", x.person(0, 2), 9);
         Check.due("down by it", x.down(0, 99, 0), 49);
         String before = Check.seen(x);
-        Check.refused(x, before, "wit(5, 1)", x.wit(5, 1), Check.UNKNOWN);
-        Check.refused(x, before, "wit(-1, 0)", x.wit(-1, 0), Check.UNKNOWN);
-        Check.refused(x, before, "wit(0, 0)", x.wit(0, 0), Check.OUTSIDE);
-        Check.refused(x, before, "wit(0, 10)", x.wit(0, 10), Check.OUTSIDE);
+        Check.due("wit(5, 1)", x.wit(5, 1), Check.UNKNOWN);
+        Check.due("wit(-1, 0)", x.wit(-1, 0), Check.UNKNOWN);
+        Check.due("wit(0, 0)", x.wit(0, 0), Check.OUTSIDE);
+        Check.due("wit(0, 10)", x.wit(0, 10), Check.OUTSIDE);
+        Check.unchanged(x, before);
     }
 
     private static void bears() {
-        AnsweredFates x = Check.withHills();
+        Called x = Check.withHills();
         Check.due("bear(1, 99)", x.bear(1, 99), 9);
         Check.due("bear(1, 0)", x.bear(1, 0), 99);
         Check.due("bear now", x.village(1, 0), 0);
         String before = Check.seen(x);
-        Check.refused(x, before, "bear(3, 1)", x.bear(3, 1), Check.UNKNOWN);
-        Check.refused(x, before, "bear(-1, -1)", x.bear(-1, -1), Check.UNKNOWN);
-        Check.refused(x, before, "bear(0, -1)", x.bear(0, -1), Check.OUTSIDE);
-        Check.refused(x, before, "bear(0, 100)", x.bear(0, 100), Check.OUTSIDE);
+        Check.due("bear(3, 1)", x.bear(3, 1), Check.UNKNOWN);
+        Check.due("bear(-1, -1)", x.bear(-1, -1), Check.UNKNOWN);
+        Check.due("bear(0, -1)", x.bear(0, -1), Check.OUTSIDE);
+        Check.due("bear(0, 100)", x.bear(0, 100), Check.OUTSIDE);
+        Check.unchanged(x, before);
     }
 
     private static void drifts() {
-        AnsweredFates x = Check.withHills();
+        Called x = Check.withHills();
         x.seed(5);
         x.drift(20);
         Check.due("harm of 3 by draws", x.person(3, 5), 236);
@@ -234,8 +241,8 @@ public final class DeedsTest {
     private static void driftsByHand() {
         int[] deeds = new int[4];
         for (int seed = 0; seed < 60; seed++) {
-            AnsweredFates x = Check.with("o5 5;v10;v20;p0 0 2 9;p1 1 3 9;");
-            AnsweredFates y = Check.with("o5 5;v10;v20;p0 0 2 9;p1 1 3 9;");
+            Called x = Check.with("o5 5;v10;v20;p0 0 2 9;p1 1 3 9;");
+            Called y = Check.with("o5 5;v10;v20;p0 0 2 9;p1 1 3 9;");
             x.tell(0, 77);
             y.tell(0, 77);
             x.seed(seed * 35000001);
@@ -250,7 +257,7 @@ public final class DeedsTest {
             Check.due("owed by seed " + seed, x.drift(1), y.told(6));
             x.keep(0);
             y.keep(0);
-            Check.due("as by hand, seed " + seed, Check.seen(x).equals(Check.seen(y)) ? 1 : 0, 1);
+            Check.same("as by hand, seed " + seed, Check.seen(x), Check.seen(y));
         }
         for (int deed = 0; deed < 4; deed++) Check.due("deed " + deed + " was drawn", deeds[deed] > 0 ? 1 : 0, 1);
 
@@ -258,7 +265,7 @@ public final class DeedsTest {
         for (int seed = 0; seed < 40; seed++) {
             int start = seed * 50000003;
             if (seedBehind(start, 1) / 65536 % 4 != 2) continue;
-            AnsweredFates x = Check.with("o5 5;v10;p0 0 2 9;");
+            Called x = Check.with("o5 5;v10;p0 0 2 9;");
             x.tell(0, 77);
             x.answer(0, 0);
             int owed = x.told(6);
@@ -267,31 +274,29 @@ public final class DeedsTest {
         }
     }
 
-    private static void undoing() {
-        AnsweredFates x = Check.withHills();
-        String[] before = new String[7];
+    /** The first so many of one deed of each kind that can be undone. */
+    private static Called behind(int deeds) {
+        Called x = Check.withHills();
         x.seed(3);
-        before[0] = Check.seen(x);
-        x.tell(0, 80);
-        before[1] = Check.seen(x);
-        x.answer(0, 3);
-        before[2] = Check.seen(x);
-        x.wit(1, 9);
-        before[3] = Check.seen(x);
-        x.bear(2, 1);
-        before[4] = Check.seen(x);
-        x.year(2);
-        before[5] = Check.seen(x);
-        x.drift(2);
-        int seed = x.seed(3);
-        Check.due("the seed goes on", seed, seedBehind(3, 6));
-        x.seed(seed);
-        for (int i = 5; i >= 0; i--) {
-            Check.due("undo()", x.undo(), i);
-            Check.due("as ahead of deed " + i, before[i].equals(Check.seen(x)) ? 1 : 0, 1);
+        if (deeds > 0) x.tell(0, 80);
+        if (deeds > 1) x.answer(0, 3);
+        if (deeds > 2) x.wit(1, 9);
+        if (deeds > 3) x.bear(2, 1);
+        if (deeds > 4) x.year(2);
+        if (deeds > 5) x.drift(2);
+        return x;
+    }
+
+    private static void undoing() {
+        for (int left = 5; left >= 0; left--) {
+            Called x = behind(6);
+            for (int i = 5; i >= left; i--) Check.due("undo()", x.undo(), i);
+            Check.same("as ahead of deed " + left, Check.seen(x), Check.seen(behind(left)));
+            Check.due("the seed stays", x.seed(0), seedBehind(3, 6));
         }
+        Called x = behind(1);
+        Check.due("undo()", x.undo(), 0);
         Check.due("undo() of nothing", x.undo(), Check.NOT);
-        Check.due("the seed stays", x.seed(0), seed);
 
         x.tell(0, 5);
         x.write(0, 1);
@@ -309,7 +314,7 @@ public final class DeedsTest {
     }
 
     private static void undoingSixteen() {
-        AnsweredFates x = Check.withHills();
+        Called x = Check.withHills();
         for (int i = 1; i <= 21; i++) {
             x.tell(0, i);
             Check.due("can be undone", x.told(18), Math.min(i, 16));

@@ -13,7 +13,7 @@ import java.util.function.ToIntFunction;
 
 /**
  * What the tests of boundary cases share. Each of them begins with the words of the document that it stands for; these
- * are looked up there, so that none is misquoted and none is left without a test.
+ * are looked up there, so that none is misquoted and none is left without a test; "The public face" has FaceTest.
  */
 class Edge {
     static final int NONE = Check.NONE;
@@ -63,7 +63,7 @@ class Edge {
         x.write(3, 0);
     }
 
-    /** The document's parts by name: "What it is", "Terms", "1", "2", "3", "Promise 1" and on. */
+    /** The document's parts by name: "What it is", "Terms", "1", "2", "3", "Promise 1" and on, "Not promised". */
     private static Map<String, String> document() {
         String all;
         try {
@@ -72,7 +72,7 @@ class Edge {
             throw new UncheckedIOException(e);
         }
         Map<String, String> parts = new LinkedHashMap<>();
-        parts.put("What it is", between(all, "An object is used", "## The public face"));
+        parts.put("What it is", between(all, "villages, persons by how", "## The public face"));
         parts.put("Terms", between(all, "Words in capitals", "======== 1"));
         parts.put("1", between(all, "THE HILLS are told", "======== 2").replace("```text", "").replace("```", ""));
         parts.put("2", between(all, "A PERSON is told", "======== 3").replace("```text", "").replace("```", ""));
@@ -81,6 +81,8 @@ class Edge {
             String promise = between(all, "## Promise " + k + ":", k < 26 ? "## Promise " + (k + 1) + ":" : "## Not promised");
             parts.put("Promise " + k, promise.substring(promise.indexOf(")`:") + 3));
         }
+        String rest = all.substring(all.indexOf("## Not promised"));
+        parts.put("Not promised", rest.substring(rest.indexOf('\n')));
         parts.replaceAll((name, part) -> part.replaceAll("\\s+", " ").trim());
         return parts;
     }

@@ -19,7 +19,7 @@ public final class HillsTest {
     }
 
     private static void newObject() {
-        AnsweredFates x = new AnsweredFates();
+        Called x = new Called();
         int[] due = {0, 0, 0, 0, 0, 0, 0, 0, 0, 0, 1, 0, -1, 0, 0, -1, -1, 0, 0};
         for (int what = 0; what < due.length; what++) Check.due("new told(" + what + ")", x.told(what), due[what]);
         Check.due("new fault()", x.fault(), Check.NONE);
@@ -41,7 +41,7 @@ public final class HillsTest {
     }
 
     private static void feeding() {
-        AnsweredFates x = new AnsweredFates();
+        Called x = new Called();
         Check.due("feed(-1)", x.feed(-1), Check.OUTSIDE);
         Check.due("feed(256)", x.feed(256), Check.OUTSIDE);
         Check.due("feed least", x.feed(Integer.MIN_VALUE), Check.OUTSIDE);
@@ -61,7 +61,7 @@ public final class HillsTest {
     }
 
     private static void read(String text, int answer, int fault) {
-        AnsweredFates x = new AnsweredFates();
+        Called x = new Called();
         Check.feed(x, text);
         Check.due("hills of '" + text + "'", x.hills(), answer);
         Check.due("fault of '" + text + "'", x.fault(), fault);
@@ -141,7 +141,7 @@ public final class HillsTest {
     }
 
     private static void faultChangesNothing() {
-        AnsweredFates x = Check.withHills();
+        Called x = Check.withHills();
         x.keep(1);
         x.tell(0, 50);
         x.answer(0, 3);
@@ -152,7 +152,7 @@ public final class HillsTest {
         Check.feed(x, "o1 1;v1;v");
         Check.due("hills with a fault", x.hills(), -11);
         Check.due("its fault", x.fault(), 9);
-        Check.due("all else is as it was", before.equals(Check.seen(x)) ? 1 : 0, 1);
+        Check.same("all else is as it was", Check.seen(x), before);
         Check.due("undone still", x.undo(), 1);
         Check.due("seed still", x.seed(0), 77);
         Check.due("image still", x.goBack(1), 1);
@@ -162,7 +162,7 @@ public final class HillsTest {
     }
 
     private static void newHillsBeginAnew() {
-        AnsweredFates x = Check.withHills();
+        Called x = Check.withHills();
         x.tell(0, 50);
         x.answer(0, 3);
         x.year(2);
@@ -178,7 +178,7 @@ public final class HillsTest {
         x.seed(1234);
         Check.feed(x, Check.HILLS);
         Check.due("hills again", x.hills(), 5);
-        Check.due("all begins anew", Check.seen(x).equals(Check.seen(Check.withHills())) ? 1 : 0, 1);
+        Check.same("all begins anew", Check.seen(x), Check.seen(Check.withHills()));
         Check.due("image 0 is gone", x.goBack(0), Check.NOT);
         Check.due("image 1 is gone", x.goBack(1), Check.NOT);
         Check.due("nothing to undo", x.undo(), Check.NOT);
@@ -186,12 +186,12 @@ public final class HillsTest {
     }
 
     private static void noHillsAgain() {
-        AnsweredFates x = Check.withHills();
+        Called x = Check.withHills();
         x.tell(0, 50);
         x.answer(0, 3);
         x.returned(5);
         Check.due("hills of an empty text", x.hills(), 0);
-        Check.due("as new", Check.seen(x).equals(Check.seen(new AnsweredFates())) ? 1 : 0, 1);
+        Check.same("as new", Check.seen(x), Check.seen(new Called()));
         Check.due("year(1)", x.year(1), Check.NOT);
         Check.feed(x, "o3 2;");
         Check.due("hills without villages", x.hills(), 0);
@@ -209,14 +209,14 @@ public final class HillsTest {
 
     /** Text upon text on one object: what the text before the last had told must not show. */
     private static void nothingOfOldHills() {
-        AnsweredFates x = Check.withHills();
+        Called x = Check.withHills();
         Check.feed(x, "o20 9;v99;v99;v99;v99;p3 0 9 9;p3 1 9 9;p3 2 9 9;p3 3 9 9;p3 0 9 9;p3 1 9 9;p3 2 9 9;");
         Check.due("hills of seven", x.hills(), 7);
         for (int p = 0; p < 7; p++) x.tell(p, 99);
         Check.due("match of seven", x.match(-1), 0);
         Check.feed(x, Check.HILLS);
         Check.due("hills of five", x.hills(), 5);
-        Check.due("as on a new object", Check.seen(x).equals(Check.seen(Check.withHills())) ? 1 : 0, 1);
+        Check.same("as on a new object", Check.seen(x), Check.seen(Check.withHills()));
         Check.feed(x, "o5 5;v9;p0 0 1 0;");
         Check.due("hills of one", x.hills(), 1);
         x.tell(0, 99);
@@ -224,11 +224,11 @@ public final class HillsTest {
         Check.due("as on a new object of one", x.village(0, 1), 1);
         Check.feed(x, "  ");
         Check.due("no hills", x.hills(), 0);
-        Check.due("as new", Check.seen(x).equals(Check.seen(new AnsweredFates())) ? 1 : 0, 1);
+        Check.same("as new", Check.seen(x), Check.seen(new Called()));
     }
 
     private static void borne() {
-        AnsweredFates x = Check.with("o1 1;v4;v5;v9;p0 0 9 9;p0 1 9 9;p3 2 5 9;");
+        Called x = Check.with("o1 1;v4;v5;v9;p0 0 9 9;p0 1 9 9;p3 2 5 9;");
         Check.due("nothing is borne", x.told(10), 1);
         x.tell(2, 9);
         Check.due("she goes up", x.answer(2, 2), 0);
@@ -247,7 +247,7 @@ public final class HillsTest {
     }
 
     private static void madeUp() {
-        AnsweredFates x = Check.with("o1 1;v1;v0;p0 0 9 9;p3 1 9 9;");
+        Called x = Check.with("o1 1;v1;v0;p0 0 9 9;p3 1 9 9;");
         for (int i = 0; i < 3; i++) {
             x.tell(1, 20);
             x.answer(1, 1);
@@ -270,7 +270,7 @@ public final class HillsTest {
     }
 
     private static void told() {
-        AnsweredFates x = Check.withHills();
+        Called x = Check.withHills();
         Check.due("told(-1)", x.told(-1), Check.OUTSIDE);
         Check.due("told(19)", x.told(19), Check.OUTSIDE);
         Check.due("told(greatest)", x.told(Integer.MAX_VALUE), Check.OUTSIDE);
@@ -290,7 +290,7 @@ public final class HillsTest {
     }
 
     private static void persons() {
-        AnsweredFates x = Check.with("o6 4;v20;v9;p0 1 5 1;p3 0 2 5;p2 1 9 9;");
+        Called x = Check.with("o6 4;v20;v9;p0 1 5 1;p3 0 2 5;p2 1 9 9;");
         Check.due("person(-1, 0)", x.person(-1, 0), Check.UNKNOWN);
         Check.due("person(3, 0)", x.person(3, 0), Check.UNKNOWN);
         Check.due("person(3, 9)", x.person(3, 9), Check.UNKNOWN);
@@ -307,7 +307,7 @@ public final class HillsTest {
     }
 
     private static void rings() {
-        AnsweredFates x = Check.with("o1 1;v0;p0 0 1 1;p0 0 1 2;p0 0 1 3;p0 0 1 4;p0 0 1 5;p0 0 1 6;p0 0 1 0;");
+        Called x = Check.with("o1 1;v0;p0 0 1 1;p0 0 1 2;p0 0 1 3;p0 0 1 4;p0 0 1 5;p0 0 1 6;p0 0 1 0;");
         for (int p = 0; p < 7; p++) {
             Check.due("ring of all " + p, x.person(p, 7), 7);
             Check.due("first of none " + p, x.person(p, 8), Check.NONE);
@@ -328,7 +328,7 @@ public final class HillsTest {
     }
 
     private static void villages() {
-        AnsweredFates x = Check.withHills();
+        Called x = Check.withHills();
         Check.due("village(-1, 0)", x.village(-1, 0), Check.UNKNOWN);
         Check.due("village(3, 0)", x.village(3, 0), Check.UNKNOWN);
         Check.due("village(3, 4)", x.village(3, 4), Check.UNKNOWN);

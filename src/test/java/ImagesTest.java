@@ -18,7 +18,7 @@ public final class ImagesTest {
     }
 
     private static void seeds() {
-        AnsweredFates x = new AnsweredFates();
+        Called x = new Called();
         Check.due("seed(2147483647)", x.seed(2147483647), 0);
         Check.due("seed(-1)", x.seed(-1), Check.OUTSIDE);
         Check.due("seed(least)", x.seed(Integer.MIN_VALUE), Check.OUTSIDE);
@@ -33,43 +33,54 @@ public final class ImagesTest {
     }
 
     private static void keeping() {
-        AnsweredFates x = Check.withHills();
+        Called x = Check.withHills();
         x.tell(0, 5);
         String before = Check.seen(x);
-        Check.refused(x, before, "keep(2)", x.keep(2), Check.UNKNOWN);
-        Check.refused(x, before, "keep(-1)", x.keep(-1), Check.UNKNOWN);
-        Check.refused(x, before, "goBack(2)", x.goBack(2), Check.UNKNOWN);
-        Check.refused(x, before, "goBack(-1)", x.goBack(-1), Check.UNKNOWN);
-        Check.refused(x, before, "goBack(0)", x.goBack(0), Check.NOT);
-        Check.refused(x, before, "goBack(1)", x.goBack(1), Check.NOT);
+        Check.due("keep(2)", x.keep(2), Check.UNKNOWN);
+        Check.due("keep(-1)", x.keep(-1), Check.UNKNOWN);
+        Check.due("goBack(2)", x.goBack(2), Check.UNKNOWN);
+        Check.due("goBack(-1)", x.goBack(-1), Check.UNKNOWN);
+        Check.due("goBack(0)", x.goBack(0), Check.NOT);
+        Check.due("goBack(1)", x.goBack(1), Check.NOT);
+        Check.unchanged(x, before);
         Check.due("keep(1)", x.keep(1), 1);
         Check.due("nothing can be undone", x.undo(), Check.NOT);
         Check.due("the fate is as it was", x.person(0, 4), 5);
         Check.due("goBack(0), not kept", x.goBack(0), Check.NOT);
     }
 
-    private static void goingBack() {
-        AnsweredFates x = Check.withHills();
+    private static Called keptOnce() {
+        Called x = Check.withHills();
         x.tell(0, 90);
         x.answer(0, 3);
         x.wit(2, 1);
         x.bear(1, 77);
         x.keep(0);
-        String first = Check.seen(x);
+        return x;
+    }
+
+    private static Called keptTwice() {
+        Called x = keptOnce();
         x.year(1);
         x.tell(1, 70);
         x.keep(1);
-        String second = Check.seen(x);
+        return x;
+    }
+
+    private static void goingBack() {
+        String first = Check.seen(keptOnce());
+        String second = Check.seen(keptTwice());
+        Called x = keptTwice();
         x.drift(5);
         x.wit(0, 1);
         Check.due("goBack(0)", x.goBack(0), 1);
-        Check.due("as it was first", first.equals(Check.seen(x)) ? 1 : 0, 1);
+        Check.same("as it was first", Check.seen(x), first);
         Check.due("nothing can be undone", x.undo(), Check.NOT);
         x.tell(0, 1);
         Check.due("goBack(1)", x.goBack(1), 1);
-        Check.due("as it was second", second.equals(Check.seen(x)) ? 1 : 0, 1);
+        Check.same("as it was second", Check.seen(x), second);
         Check.due("goBack(0) again", x.goBack(0), 1);
-        Check.due("as it was first, again", first.equals(Check.seen(x)) ? 1 : 0, 1);
+        Check.same("as it was first, again", Check.seen(x), first);
         x.tell(4, 44);
         x.keep(0);
         x.tell(4, 1);
@@ -83,7 +94,7 @@ public final class ImagesTest {
     }
 
     private static void imagesKeepTheSeed() {
-        AnsweredFates x = Check.withHills();
+        Called x = Check.withHills();
         x.seed(41);
         x.keep(0);
         x.drift(9);
@@ -94,7 +105,7 @@ public final class ImagesTest {
         Check.due("the seed kept", x.seed(41), 41);
         x.drift(9);
         x.keep(0);
-        Check.due("the same years by draws", then.equals(Check.seen(x)) ? 1 : 0, 1);
+        Check.same("the same years by draws", Check.seen(x), then);
         Check.due("the same seed", x.seed(0), seed);
         x.goBack(1);
         Check.due("the other seed kept", x.seed(0), seed);

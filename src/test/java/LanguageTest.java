@@ -12,11 +12,11 @@ import java.util.regex.Pattern;
 
 /** The rules of LANGUAGE.md that can be seen from the class and from its text. */
 public final class LanguageTest {
-    private static final String FACE = "feed/1 hills/0 fault/0 told/1 person/2 village/2 tell/2 answer/2 year/1 wit/2 bear/2 drift/1 "
-            + "undo/0 down/3 best/1 match/1 shares/2 dry/2 returned/1 write/2 tear/0 judge/0 seed/1 keep/1 goBack/1";
+    private static final Set<String> FACE = new TreeSet<>();
 
     public static void main(String[] args) throws IOException {
-        face();
+        FACE.addAll(FaceTest.methodsOf(Files.readString(Path.of("../shared/DOC.md"))).keySet());
+        names();
         classesInside();
         words(withoutTexts(Files.readString(Path.of("src/main/java/AnsweredFates.java"))));
         Check.end();
@@ -26,32 +26,15 @@ public final class LanguageTest {
         Check.due(what + " (1)", so ? 1 : 0, 1);
     }
 
-    private static void face() {
-        Class<?> face = AnsweredFates.class;
-        holds("the class is public and final", Modifier.isPublic(face.getModifiers()) && Modifier.isFinal(face.getModifiers()));
-        holds("it is in no package", face.getPackageName().isEmpty());
-        Set<String> due = new TreeSet<>(Set.of(FACE.split(" ")));
-        Set<String> there = new TreeSet<>();
-        Set<String> names = new TreeSet<>();
-        for (Method m : face.getDeclaredMethods()) {
-            if (Modifier.isPrivate(m.getModifiers())) continue;
-            holds(m.getName() + " is public and answers an int", Modifier.isPublic(m.getModifiers())
-                    && !Modifier.isStatic(m.getModifiers()) && m.getReturnType() == int.class);
-            there.add(m.getName() + "/" + m.getParameterCount());
-            names.add(m.getName());
+    /** The face itself is looked at by FaceTest. */
+    private static void names() {
+        for (Method m : AnsweredFates.class.getDeclaredMethods()) {
+            holds(m + " has seven parameters at most", m.getParameterCount() <= 7);
+            if (Modifier.isPrivate(m.getModifiers())) holds("a private method has a name of its own: " + m, !FACE.contains(m.getName()));
         }
-        holds("the methods are those of the document: " + there, there.equals(due));
-        for (Method m : face.getDeclaredMethods()) {
-            if (Modifier.isPrivate(m.getModifiers())) holds("a private method has a name of its own: " + m, !names.contains(m.getName()));
+        for (Field f : AnsweredFates.class.getDeclaredFields()) {
+            if (Modifier.isStatic(f.getModifiers())) holds(f + " is final", Modifier.isFinal(f.getModifiers()));
         }
-        Constructor<?>[] made = face.getDeclaredConstructors();
-        holds("one public constructor", made.length == 1 && Modifier.isPublic(made[0].getModifiers()) && made[0].getParameterCount() == 0);
-        int constants = 0;
-        for (Field f : face.getDeclaredFields()) {
-            if (!Modifier.isPublic(f.getModifiers())) holds(f + " is private", Modifier.isPrivate(f.getModifiers()));
-            else constants++;
-        }
-        Check.due("constants", constants, 5);
     }
 
     private static void classesInside() {
@@ -66,9 +49,11 @@ public final class LanguageTest {
                 else holds(f + " is final", Modifier.isFinal(f.getModifiers()));
             }
             holds(c + " has some twenty fields at most", fields <= 20);
+            // so no constructor can hand out a part of the object that it makes
+            for (Constructor<?> made : c.getDeclaredConstructors()) Check.due(made + " is given", made.getParameterCount(), 0);
             for (Method m : c.getDeclaredMethods()) {
                 holds(m + " has seven parameters at most", m.getParameterCount() <= 7);
-                holds(m + " has a name of its own", !(" " + FACE).contains(" " + m.getName() + "/"));
+                holds(m + " has a name of its own", !FACE.contains(m.getName()));
             }
         }
     }

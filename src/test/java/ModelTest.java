@@ -2,11 +2,15 @@ import java.util.Random;
 
 /** Calls by chance, the same each time, against the model: no answer may differ and nothing may be thrown. */
 public final class ModelTest {
-    private static final int RUNS = 600;
+    private static final int RUNS = 900;
+    /** All that an object is used for. */
     private static final int CALLS = 512;
+    /** How many calls lookAtAll() makes, and how many any other step at most. */
+    private static final int LOOK = 98;
+    private static final int STEP = 5;
 
     private final Random chance;
-    private final AnsweredFates x = new AnsweredFates();
+    private final Called x = new Called();
     private final Model y = new Model();
     private final String run;
     private int calls = 0;
@@ -99,20 +103,33 @@ public final class ModelTest {
             feed(someHills());
             readHills();
         }
-        while (calls < CALLS) {
-            if (chance.nextInt(150) == 0) {
-                String text = someHills();
-                feed(chance.nextInt(3) == 0 ? spoilt(text) : text);
-                readHills();
-            }
-            if (chance.nextInt(100) == 0) lookAtAll();
-            int way = chance.nextInt(10);
-            if (way < 4) deed();
-            else if (way < 7) trial();
-            else if (way < 9) look();
-            else record();
+        while (hasRoomFor(STEP)) {
+            if (chance.nextInt(150) == 0) otherHills();
+            else if (chance.nextInt(100) == 0 && hasRoomFor(LOOK)) lookAtAll();
+            else step();
         }
         lookAtAll();
+    }
+
+    /** Whether so many calls can be made, and the look at the end behind them. */
+    private boolean hasRoomFor(int more) {
+        return calls + more + LOOK <= CALLS;
+    }
+
+    private void otherHills() {
+        String text = someHills();
+        if (chance.nextInt(3) == 0) text = spoilt(text);
+        if (!hasRoomFor(text.length() + 2)) return;
+        feed(text);
+        readHills();
+    }
+
+    private void step() {
+        int way = chance.nextInt(10);
+        if (way < 4) deed();
+        else if (way < 7) trial();
+        else if (way < 9) look();
+        else record();
     }
 
     private void deed() {

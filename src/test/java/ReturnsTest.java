@@ -10,27 +10,29 @@ public final class ReturnsTest {
         Check.end();
     }
 
-    private static void went(AnsweredFates x, String when, int count, int inEach, int ask) {
+    private static void went(Called x, String when, int count, int inEach, int ask) {
         Check.due("how many went, " + when, x.told(14), count);
         Check.due("which in each, " + when, x.told(15), inEach);
         Check.due("which to ask, " + when, x.told(16), ask);
     }
 
     private static void returned() {
-        AnsweredFates x = new AnsweredFates();
+        Called x = new Called();
         Check.due("returned(-1) without hills", x.returned(-1), Check.OUTSIDE);
         Check.due("returned(0) without hills", x.returned(0), Check.NOT);
         x = Check.withHills();
         String before = Check.seen(x);
-        Check.refused(x, before, "returned(-1)", x.returned(-1), Check.OUTSIDE);
-        Check.refused(x, before, "returned(1000)", x.returned(1000), Check.OUTSIDE);
+        Check.due("returned(-1)", x.returned(-1), Check.OUTSIDE);
+        Check.due("returned(1000)", x.returned(1000), Check.OUTSIDE);
+        Check.unchanged(x, before);
         went(x, "nothing returned", 8, 0, 0);
         Check.due("returned(39)", x.returned(39), 1);
         went(x, "39", 1, 6, -1);
         for (int i = 2; i <= 6; i++) Check.due("returned(39) again", x.returned(39), i);
         before = Check.seen(x);
-        Check.refused(x, before, "returned(39) a seventh time", x.returned(39), Check.FULL);
-        Check.refused(x, before, "returned(1000) a seventh time", x.returned(1000), Check.OUTSIDE);
+        Check.due("returned(39) a seventh time", x.returned(39), Check.FULL);
+        Check.due("returned(1000) a seventh time", x.returned(1000), Check.OUTSIDE);
+        Check.unchanged(x, before);
         went(x, "39 six times", 1, 6, -1);
         Check.due("tear()", x.tear(), 6);
         Check.due("returned(999)", x.returned(999), 1);
@@ -41,7 +43,7 @@ public final class ReturnsTest {
     }
 
     private static void asking() {
-        AnsweredFates x = Check.with("o1 1;v5;v0;v5;v10;");
+        Called x = Check.with("o1 1;v5;v0;v5;v10;");
         went(x, "nothing returned", 16, 0, 0);
         // of 10: {0, 2} or {3}, with 1 or without
         x.returned(10);
@@ -145,7 +147,7 @@ public final class ReturnsTest {
     }
 
     private static void bearAsItWasThen() {
-        AnsweredFates x = Check.withHills();
+        Called x = Check.withHills();
         x.returned(20);
         went(x, "20", 1, 1, -1);
         x.bear(0, 5);
@@ -162,23 +164,25 @@ public final class ReturnsTest {
     }
 
     private static void writing() {
-        AnsweredFates x = Check.withHills();
+        Called x = Check.withHills();
         String before = Check.seen(x);
-        Check.refused(x, before, "write(5, 0)", x.write(5, 0), Check.UNKNOWN);
-        Check.refused(x, before, "write(-1, -1)", x.write(-1, -1), Check.UNKNOWN);
-        Check.refused(x, before, "write(0, -1)", x.write(0, -1), Check.OUTSIDE);
-        Check.refused(x, before, "write(0, 10000)", x.write(0, 10000), Check.OUTSIDE);
+        Check.due("write(5, 0)", x.write(5, 0), Check.UNKNOWN);
+        Check.due("write(-1, -1)", x.write(-1, -1), Check.UNKNOWN);
+        Check.due("write(0, -1)", x.write(0, -1), Check.OUTSIDE);
+        Check.due("write(0, 10000)", x.write(0, 10000), Check.OUTSIDE);
+        Check.unchanged(x, before);
         for (int i = 1; i <= 15; i++) Check.due("write number " + i, x.write(4, i == 1 ? 9999 : 0), i);
         before = Check.seen(x);
-        Check.refused(x, before, "write a sixteenth", x.write(0, 0), Check.FULL);
-        Check.refused(x, before, "write a sixteenth, outside", x.write(0, 10000), Check.OUTSIDE);
-        Check.refused(x, before, "write a sixteenth, unknown", x.write(5, 0), Check.UNKNOWN);
+        Check.due("write a sixteenth", x.write(0, 0), Check.FULL);
+        Check.due("write a sixteenth, outside", x.write(0, 10000), Check.OUTSIDE);
+        Check.due("write a sixteenth, unknown", x.write(5, 0), Check.UNKNOWN);
+        Check.unchanged(x, before);
         Check.due("entries", x.told(17), 15);
         Check.due("the first is false", x.judge(), 0);
     }
 
     private static void tearing() {
-        AnsweredFates x = Check.withHills();
+        Called x = Check.withHills();
         x.returned(3);
         x.returned(4);
         x.write(0, 5);
@@ -191,7 +195,7 @@ public final class ReturnsTest {
     }
 
     private static void judging() {
-        AnsweredFates x = Check.withHills();
+        Called x = Check.withHills();
         Check.due("an empty book", x.judge(), Check.NONE);
         x.write(0, 0);
         x.write(1, 0);

@@ -14,7 +14,7 @@ public final class TriedTest {
     }
 
     private static void down() {
-        AnsweredFates x = Check.withHills();
+        Called x = Check.withHills();
         // plain, stubborn, shy, old woman, and plain, who is told 99 again at the third turn
         int[] left = {73, 76, 76, 55, 96};
         for (int p = 0; p < 5; p++) {
@@ -31,10 +31,11 @@ public final class TriedTest {
         Check.due("a shy one in three turns", x.down(2, 18, 1), 3);
         Check.due("rid of 3", x.person(4, 6), 3);
         for (int p = 0; p < 5; p++) {
-            int rid = x.person(p, 6);
-            for (int n = 0; n <= 99; n++) Check.due("rid of " + n + " by " + p, x.down(p, n, 0) == 0 ? 1 : 0, n <= rid ? 1 : 0);
+            Called y = Check.withHills();
+            int rid = y.person(p, 6);
+            for (int n = 0; n <= 99; n++) Check.due("rid of " + n + " by " + p, y.down(p, n, 0) == 0 ? 1 : 0, n <= rid ? 1 : 0);
         }
-        AnsweredFates old = Check.with("o20 1;v1;p3 0 9 9;");
+        Called old = Check.with("o20 1;v1;p3 0 9 9;");
         Check.due("rid of all", old.person(0, 6), 99);
         Check.due("down(5, 0, 0)", x.down(5, 0, 0), Check.UNKNOWN);
         Check.due("down(-1, 100, 2)", x.down(-1, 100, 2), Check.UNKNOWN);
@@ -45,7 +46,7 @@ public final class TriedTest {
     }
 
     private static void downByPatience() {
-        AnsweredFates x = Check.with("o3 9;v1;p0 0 2 9;p0 0 2 9;p0 0 2 9;");
+        Called x = Check.with("o3 9;v1;p0 0 2 9;p0 0 2 9;p0 0 2 9;");
         Check.due("at the last turn the oracle is silent", x.down(0, 50, 0), 44);
         Check.due("three turns", x.down(0, 50, 1), 3);
         x.tell(0, 50);
@@ -56,7 +57,7 @@ public final class TriedTest {
     }
 
     private static void best() {
-        AnsweredFates x = Check.withHills();
+        Called x = Check.withHills();
         Check.due("best(99)", x.best(99), 3);
         Check.due("best(5): 0, 2 and 3 are alike", x.best(5), 0);
         Check.due("best(0)", x.best(0), 0);
@@ -82,7 +83,7 @@ public final class TriedTest {
     }
 
     private static void match() {
-        AnsweredFates x = Check.withHills();
+        Called x = Check.withHills();
         Check.due("match(NONE) of nothing", x.match(-1), 0);
         Check.due("match(0) of nothing", x.match(0), Check.NONE);
         Check.due("match(5)", x.match(5), Check.UNKNOWN);
@@ -102,7 +103,7 @@ public final class TriedTest {
     }
 
     private static void matchOfLikeOnes() {
-        AnsweredFates x = Check.with("o2 1;v1;p0 0 5 9;p0 0 5 9;p0 0 5 9;p0 0 5 9;p0 0 5 9;p0 0 5 9;p0 0 5 9;");
+        Called x = Check.with("o2 1;v1;p0 0 5 9;p0 0 5 9;p0 0 5 9;p0 0 5 9;p0 0 5 9;p0 0 5 9;p0 0 5 9;");
         for (int p = 6; p >= 0; p--) x.tell(p, 50);
         Check.due("of like ones", x.match(-1), 280);
         for (int p = 0; p < 7; p++) Check.due("the first of like ones " + p, x.match(p), p);
@@ -113,7 +114,7 @@ public final class TriedTest {
     }
 
     private static void matchWithNobody() {
-        AnsweredFates x = Check.with("o20 9;v1;p0 0 1 9;p0 0 1 9;p3 0 9 9;");
+        Called x = Check.with("o20 9;v1;p0 0 1 9;p0 0 1 9;p3 0 9 9;");
         x.tell(0, 50);
         x.tell(1, 60);
         // plain ones would only make it more
@@ -140,7 +141,7 @@ public final class TriedTest {
     }
 
     private static void shares() {
-        AnsweredFates x = Check.withHills();
+        Called x = Check.withHills();
         int[][] due = {
             {0, 0, 0, 0}, {1, 0, 0, 1}, {2, 0, 1, 1}, {3, 1, 1, 1}, {4, 0, 2, 2}, {27, 9, 9, 9}, {28, 9, 9, 10},
             {29, 10, 9, 10}, {49, 20, 9, 20}, {50, 20, 9, 21}, {59, 20, 9, 30}, {60, -1, -1, -1}, {999, -1, -1, -1}};
@@ -163,7 +164,7 @@ public final class TriedTest {
         for (int amount = 0; amount <= 11; amount++) sharesByTrial(x, amount, new int[] {3, 0, 5, 2});
     }
 
-    private static void sharesByTrial(AnsweredFates x, int amount, int[] bear) {
+    private static void sharesByTrial(Called x, int amount, int[] bear) {
         int[] best = null;
         for (int code = 0; code < 6 * 6 * 6 * 6; code++) {
             // the first village is the greatest figure, so that codes come with its share rising
@@ -184,7 +185,7 @@ public final class TriedTest {
     }
 
     private static void dry() {
-        AnsweredFates x = new AnsweredFates();
+        Called x = new Called();
         Check.due("dry(0, 0)", x.dry(0, 0), 1000000000);
         Check.due("dry(1, 0)", x.dry(1, 0), 0);
         Check.due("dry(60, 100)", x.dry(60, 100), 1000000000);
@@ -210,7 +211,7 @@ public final class TriedTest {
     }
 
     private static void nothingChanges() {
-        AnsweredFates x = Check.withHills();
+        Called x = Check.withHills();
         x.tell(0, 50);
         x.tell(2, 60);
         x.answer(2, 1);
@@ -223,7 +224,7 @@ public final class TriedTest {
         x.shares(30, 0);
         x.dry(5, 50);
         x.judge();
-        Check.due("nothing changes by trying", before.equals(Check.seen(x)) ? 1 : 0, 1);
+        Check.same("nothing changes by trying", Check.seen(x), before);
         Check.due("nor the seed", x.seed(0), 5);
     }
 }
